@@ -14,6 +14,7 @@ public final class HollowedByFire {
     private static final int WIDE = 0, THICK = 1, HIGH = 2, GRAIN = 3, KNOT = 4, PEG = 5;
     private static final int HEAT = 0, WIND = 1, SAP = 2, MEN = 3, SEASON = 4;
     private static final int CHAR = 0, PULL = 1, STAND = 2;
+    private static final int CHAR_MOST = 9, PULL_MOST = 999;
     private static final int WORK = 0, CHARRED = 1, PEGGED = 2, SPREAD = 3, SEWN = 4, RAISED = 5;
     private static final int A_TREE = 6;
     private static final int INCHES_MOST = 12, HOURS_MOST = 24, MEN_MOST = 5, CHANCE_MOST = 5;
@@ -369,12 +370,12 @@ public final class HollowedByFire {
         if (!isSection(s)) {
             return NO_SUCH;
         }
-        if (!within(told, 0, 999)) {
+        if (!within(told, 0, PULL_MOST)) {
             return NOT_SO;
         }
         boat.begin();
         int best = 1;
-        int nearest = Integer.MAX_VALUE;
+        int nearest = PULL_MOST + 1;
         for (int thick = 1; thick <= THICK_MOST; thick++) {
             int pull = boat.asked(PULL, thick, wood.of(WIDE, s), wood.of(KNOT, s));
             int away = Math.abs(pull - told);
@@ -995,7 +996,7 @@ public final class HollowedByFire {
                 top += 1 - takes;
                 stack[top - 1] = Step.result(step, a, b, names);
             }
-            return Math.max(0, Math.min(stack[0], part == CHAR ? 9 : 999));
+            return Math.max(0, Math.min(stack[0], part == CHAR ? CHAR_MOST : PULL_MOST));
         }
     }
 
