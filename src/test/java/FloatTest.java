@@ -18,6 +18,7 @@ public final class FloatTest {
         floats(x, 0, 1080, 10, 0, 327);
         floats(x, 0, 1081, -1, -1, -1);
         floats(x, 0, 9999, -1, -1, -1);
+        deep();
         x.carve(7, 2, 4);
         // 8 times 12 by 4 less
         check.due("the least HIGH", x.floats(0, 24, 1), 0);
@@ -28,6 +29,27 @@ public final class FloatTest {
         check.due("BROKEN it sinks", x.floats(2, 0, 0), -1);
         grown();
         refusals();
+    }
+
+    private void deep() {
+        // it weighs 1080; 3600 by 13 is 276 and 12 more
+        HollowedByFire x = new HollowedByFire();
+        Hands.carveAll(x, 2, 20);
+        floats(x, 0, 1080, 12, 8, 276);
+        // three SECTIONS of 41, six of 320, by 4: 510 and 3 more
+        HollowedByFire y = new HollowedByFire();
+        for (int s = 0; s < 9; s += 3) {
+            y.carve(s, 0, 21);
+            y.carve(s, 1, 1);
+        }
+        check.due("it weighs 510", y.bears(0, 0), 1830 - 510);
+        for (int s = 0; s < 9; s++) {
+            HollowedByFire low = new HollowedByFire();
+            low.carve(s, 2, 5);
+            // 720 less 20
+            check.due("the least HIGH is at " + s, low.floats(0, 0, 1), 1);
+            check.due("the least HIGH is at " + s, low.bears(0, 0), 180 * 5 - 700);
+        }
     }
 
     private void grown() {
@@ -99,6 +121,8 @@ public final class FloatTest {
 
     private void promise30() {
         HollowedByFire x = new HollowedByFire();
+        check.due("the greatest wave", x.bar(0, 0, 999), 0);
+        check.due("the greatest load", x.bar(0, 9999, 0), 0);
         check.due("6 above the water", x.bar(0, 0, 6), 1);
         check.due("a wave of 7", x.bar(0, 0, 7), 0);
         check.due("by a load of 1", x.bar(0, 1, 6), 0);

@@ -115,6 +115,8 @@ public final class LawTest {
         fault("char 1" + (char) 233 + ";", 6);
         fault("char" + (char) 0 + "1;", 4);
         fault("char 1;pull 2;stand 3;" + (char) 255, 22);
+        fault("char 1;pull 2;stand 3;" + (char) 0, 22);
+        fault("char 1;pull 2;stand 3; " + (char) 7, 23);
         fault("char >1;", 5);
     }
 
@@ -170,8 +172,8 @@ public final class LawTest {
 
     /** What char, pull and stand are by such an expression. */
     private void value(String e, int want) {
-        HollowedByFire x = Hands.under("char 1;pull " + e + ";stand 3;");
-        check.due(e, x.asks(1, 7, 100, 1), want);
+        HollowedByFire x = Hands.under("char 1;pull (" + e + ") + 400;stand 3;");
+        check.due(e, x.asks(1, 7, 100, 1), want + 400);
     }
 
     private void promise9() {
@@ -236,6 +238,12 @@ public final class LawTest {
         value("(1 or 0) and 0", 0);
         value("7 and 9", 1);
         value("0-2 and 4", 1);
+        value("0 or 0", 0);
+        value("0 and 0", 0);
+        value("0 and 3", 0);
+        value("3 and 0", 0);
+        value("3-10", -7);
+        value("-300", -300);
         value("0 or 9", 1);
         value("5+(3 or 0)", 6);
         value("thick*thick+wide+knot", 150);

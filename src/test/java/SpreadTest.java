@@ -65,6 +65,8 @@ public final class SpreadTest {
         check.due("the MIDDLE is BROKEN already", x.far(2), 4);
         HollowedByFire strong = Hands.under("char 1; pull 0; stand 999;");
         check.due("all 12", strong.far(0), 12);
+        HollowedByFire last = Hands.under("char 1; pull (wide = 68) * 999; stand 0;");
+        check.due("just the twelfth is too much", last.far(0), 11);
         strong.work(3, 0, 5);
         strong.work(3, 0, 9);
         check.due("the other 7", strong.far(1), 7);

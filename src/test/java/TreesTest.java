@@ -228,6 +228,7 @@ public final class TreesTest {
         // 36 and 2 for each SIDE: the farthest on boughs is 32
         fell(x, 4, 1, 0, 32);
         fell(x, 4, 3, 1, 30);
+        leaning();
         for (int t : new int[] {-1, 5, 6, Hands.MIN, Hands.MAX}) {
             check.due("no such TREE", x.fell(t, 0, 0), -5);
             check.due("no such TREE ahead of all", x.fell(t, -1, 2), -5);
@@ -237,6 +238,24 @@ public final class TreesTest {
         }
         for (int what : new int[] {-1, 2, Hands.MIN, Hands.MAX}) {
             check.due("no such what", x.fell(0, 0, what), -7);
+        }
+    }
+
+    private void leaning() {
+        HollowedByFire x = new HollowedByFire();
+        tree(x, 10, -1, 0, 1, 0, 0, 0, 0);
+        tree(x, 10, 1, 0, 1, 0, 0, 0, 0);
+        tree(x, 98, -9, 3, 1, 0, 0, 0, 0);
+        fell(x, 0, 0, 4, 1);
+        fell(x, 1, 0, 0, 1);
+        fell(x, 2, 0, 4, 18);
+        tree(x, 20, 0, 0, 1, 0, 0, 0, 0);
+        fell(x, 3, 0, 0, 2);
+        tree(x, 19, 9, 9, 1, 0, 0, 0, 0);
+        // 28, and 9 for each SIDE, 12 less on boughs
+        for (int side = 0; side < 8; side++) {
+            boolean isNear = side == 0 || side == 1 || side == 7;
+            fell(x, 4, 1 << side, isNear ? side : 0, side == 0 ? 16 : isNear ? 25 : 28);
         }
     }
 

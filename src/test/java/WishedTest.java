@@ -74,9 +74,27 @@ public final class WishedTest {
         old("only by many it can be", 12, 99, 99, 99, 99, 147, 99, 99, 99, 99);
         // all that can be are: 3 or more by the MIDDLE, and then 0 would be better still
         old("the best that can be", 3, 99, 99, 99, 99, 111, 99, 99, 99, 99);
-        // by one SECTION that is wider and its like that is narrower the differences are alike
-        old("of like ones the least", 0, 10, 11, 10, 10, 10, 10, 10, 9, 10);
+        old("one SECTION aside", 0, 10, 11, 10, 10, 10, 10, 10, 9, 10);
+        // by 0, 1, 2 UNEVEN is 8; by 1, 2, 3 it is 8
+        old("of like ones the least", 0, 10, 10, 10, 12, 14, 12, 10, 10, 10);
+        old("of like ones not the first of all", 1, 10, 11, 12, 15, 18, 15, 12, 11, 10);
+        each();
         old("the other way, too", 2, 30, 32, 34, 36, 38, 36, 34, 32, 30);
+    }
+
+    /** Each difference counts: one of 3 towards the MIDDLE, three of 1 and four of 7, so 3 .. 7 are alike. */
+    private void each() {
+        for (int at = 0; at < 8; at++) {
+            int[] widths = new int[9];
+            widths[0] = 50;
+            int ones = 3;
+            for (int i = 0; i < 8; i++) {
+                int steps = i == at ? 3 : ones > 0 ? 1 : 7;
+                ones -= steps == 1 ? 1 : 0;
+                widths[i + 1] = widths[i] + (i < 4 ? steps : -steps);
+            }
+            old("3 at " + at, 3, widths);
+        }
     }
 
     private void promise23() {
@@ -105,6 +123,9 @@ public final class WishedTest {
         check.due("the MIDDLE", x.carved(4, 0), 97);
         Hands.sheet(x, 0, 1, 1, 1, 1, 4, 1, 1, 1, 1);
         check.due("too little is left", x.copyOf(0, 1), -3);
+        Hands.sheet(x, 0, 20, 20, 20, 20, 4, 20, 20, 20, 20);
+        check.due("nothing is left of the MIDDLE", x.copyOf(0, 1), -3);
+        Hands.sheet(x, 0, 1, 1, 1, 1, 4, 1, 1, 1, 1);
         check.due("by nothing", x.copyOf(0, 0), 9);
         check.due("the least", x.carved(8, 0), 1);
         x.sheet(0, 0, 9);

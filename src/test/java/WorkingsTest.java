@@ -197,6 +197,11 @@ public final class WorkingsTest {
         check.due("of THICK 0 it stays BROKEN", x.state(6, 0), 216);
         check.due("then all but that one", x.state(7, 0), 16);
         row("SEWN ones are no HIGHER", x, 7, 2, "10 10 10 10 10 10 10 10 10");
+        HollowedByFire thin = Hands.under("char 9; pull 999; stand 0;");
+        Hands.carveAll(thin, 1, 1);
+        thin.work(3, 0, 1);
+        thin.work(4, 9, 9);
+        check.due("of THICK 1 it is SEWN", thin.state(2, 0), 0);
         HollowedByFire skip = Hands.under("char 9; pull 999; stand 0;");
         skip.work(3, 0, 1);
         skip.work(1, 1, 1);
