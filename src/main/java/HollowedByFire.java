@@ -1537,9 +1537,10 @@ public final class HollowedByFire {
         int weight() {
             int all = 0;
             for (int s = 0; s < SECTIONS; s++) {
-                all += thick[s] * (wide[s] + 2 * high[s]);
+                // each SECTION is cut by itself: the sentence on the weight tells no "together"
+                all += thick[s] * (wide[s] + 2 * high[s]) / 4;
             }
-            return all / 4;
+            return all;
         }
 
         int draught(int load) {

@@ -36,13 +36,13 @@ public final class FloatTest {
         HollowedByFire x = new HollowedByFire();
         Hands.carveAll(x, 2, 20);
         floats(x, 0, 1080, 12, 8, 276);
-        // three SECTIONS of 41, six of 320, by 4: 510 and 3 more
+        // three SECTIONS of 43 by 4, cut: 10 each; six of 320 by 4
         HollowedByFire y = new HollowedByFire();
         for (int s = 0; s < 9; s += 3) {
-            y.carve(s, 0, 21);
+            y.carve(s, 0, 23);
             y.carve(s, 1, 1);
         }
-        check.due("it weighs 510", y.bears(0, 0), 1830 - 510);
+        check.due("it weighs 510", y.bears(0, 0), 1890 - 510);
         for (int s = 0; s < 9; s++) {
             HollowedByFire low = new HollowedByFire();
             low.carve(s, 2, 5);
@@ -57,11 +57,13 @@ public final class FloatTest {
         x.work(1, 9, 1);
         x.work(3, 0, 2);
         x.work(5, 9, 5);
-        // THICK 7; WIDE 20 22 24 26 28 26 24 22 20, HIGH 16 15 .. 15 16: 7 times 212 and 274 by 4
-        check.due("it weighs 850", x.bears(3, 0), 212 * 15 - 850);
+        // THICK 7; WIDE 20 22 24 26 28 26 24 22 20, HIGH 16 15 .. 15 16: 91 91 94 98 101 98 94 91 91
+        check.due("it weighs 849", x.bears(3, 0), 212 * 15 - 849);
         floats(x, 3, 0, 5, 10, 842);
-        floats(x, 3, 210, 5, 10, 842);
-        floats(x, 3, 211, 6, 9, 722);
+        floats(x, 3, 211, 5, 10, 842);
+        floats(x, 3, 212, 6, 9, 722);
+        check.due("849 and 211 are 5 deep", x.bar(3, 211, 11), 1);
+        check.due("849 and 212 are 6 deep", x.bar(3, 212, 11), 0);
     }
 
     private void refusals() {
@@ -105,18 +107,34 @@ public final class FloatTest {
         x.carve(1, 1, 7);
         x.carve(0, 2, 11);
         x.carve(1, 2, 11);
-        // 7 times 320 and twice 7 times 42, by 4: cut once, of all together
-        check.due("the weight is cut", x.bears(0, 0), 1800 - 707);
+        // seven of 80; two of 7 times 42 by 4, each cut to 73
+        check.due("the weight is cut", x.bears(0, 0), 1800 - 706);
         x.carve(2, 2, 11);
         x.carve(2, 1, 1);
-        check.due("1 THICK", x.bears(0, 0), 1800 - 637);
+        check.due("1 THICK", x.bears(0, 0), 1800 - 636);
         x.work(3, 0, 3);
         x.work(3, 0, 9);
         x.work(4, 9, 9);
         check.due("a BROKEN one", x.bears(1, 0), -1);
         check.due("BROKEN ones", x.bears(2, 0), -1);
-        // 372 WIDE, it weighs 4086 by 4
-        check.due("SEWN", x.bears(3, 0), 3720 - 1021);
+        // 372 WIDE, it weighs 94 94 16 152 176 152 128 104 104
+        check.due("SEWN", x.bears(3, 0), 3720 - 1020);
+        cutAtEach();
+    }
+
+    private void cutAtEach() {
+        HollowedByFire x = new HollowedByFire();
+        x.work(1, 9, 1);
+        x.work(3, 0, 1);
+        // THICK 6; WIDE 20 21 22 23 24 23 22 21 20: 60 61 63 64 66 64 63 61 60, not 565
+        check.due("each SECTION is cut", x.bears(2, 0), 1960 - 562);
+        for (int s = 0; s < 9; s++) {
+            HollowedByFire y = new HollowedByFire();
+            y.carve(s, 1, 1);
+            y.carve(s, 0, 23);
+            // 43 by 4 is 10 and 3 more, and eight are 80 each
+            check.due("SECTION " + s + " is cut", y.bears(0, 0), 1830 - 650);
+        }
     }
 
     private void promise30() {

@@ -307,7 +307,7 @@ public final class Slow {
         }
 
         int weight() {
-            return sum(s -> thick[s] * (wide[s] + 2 * high[s])) / 4;
+            return sum(s -> thick[s] * (wide[s] + 2 * high[s]) / 4);
         }
 
         int sum(ToIntFunction<Integer> f) {
