@@ -988,7 +988,7 @@ public final class HollowedByFire {
             for (int i = part == CHAR ? 0 : Math.max(ends[text][part - 1], 0); i < to; i++) {
                 int step = code[i];
                 int takes = Step.takes(step);
-                if (takes > top || top - takes >= stack.length) {
+                if (takes > top || top >= stack.length) {
                     return 0;
                 }
                 int a = takes > 0 ? stack[top - takes] : 0;
