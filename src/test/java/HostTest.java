@@ -168,7 +168,9 @@ public final class HostTest {
         check.due("far outside", x.worksBy(0, 0, Hands.MAX, 1), -12);
         check.due("far below", x.worksBy(0, 0, Hands.MIN, 10), -12);
         check.due("none of these came", x.count(5), 7);
-        check.due("no place is needed for none", x.worksBy(0, 0, 12, 0), 0);
+        for (int at : new int[] {-1, 12, 13, Hands.MIN, Hands.MAX}) {
+            check.due("no place is needed for none: " + at, x.worksBy(0, 0, at, 0), 0);
+        }
         check.due("3 more", x.worksBy(0, 0, 3, 3), 3);
         check.due("others are left out when it is full", x.worksBy(0, 0, 3, 3), 0);
         check.due("outside, when it is full", x.worksBy(0, 0, 3, 4), -12);
